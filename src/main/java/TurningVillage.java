@@ -1113,7 +1113,7 @@ public final class TurningVillage {
     private static final class Harvest {
         final int[] known = new int[EIGHT];
         final long[] cropOfTurn = new long[EIGHT];
-        /** Of the first so many DAYS of the history that is looked at. */
+        /** Of the first so many DAYS of the history that is looked at; of none: no bit, the TURN ahead, no crop. */
         final int[] bits = new int[MOST_HISTORY + 1];
         final int[] turns = new int[MOST_HISTORY + 1];
         final long[] crops = new long[MOST_HISTORY + 1];
@@ -1134,9 +1134,7 @@ public final class TurningVillage {
             first = NONE;
             sureWith = (1 << n) - 1;
             sureWithout = sureWith;
-            bits[0] = 0;
             turns[0] = turnAhead;
-            crops[0] = 0;
             // The first DAY is the highest bit of the counter, so that most of a history is like the last one.
             for (int counter = 0; counter < 1 << n; counter++) {
                 int unlike = counter == 0 ? n : Integer.numberOfTrailingZeros(counter) + 1;
