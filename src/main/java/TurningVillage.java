@@ -30,7 +30,10 @@ public final class TurningVillage {
 
     /** What set() and reaped() answer in place of BAD. */
     private static final int BAD_SETTING = -5;
-    private static final long BAD_LONG = Long.MIN_VALUE + 2;
+    /** Where the answer is a long: the least one and 2 more. */
+    private static final long BAD_LONG = (1L << 63) + 2;
+    /** What get() answers in place of any refusal. */
+    private static final int LEAST_INT = 1 << 31;
     private static final int NULL = 1;
     private static final int INDEX = 2;
     private static final int CAST = 3;
@@ -419,12 +422,12 @@ public final class TurningVillage {
 
     public int get(int s, int form, int i) {
         if (!isSheet(s) || !isForm(form)) {
-            return Integer.MIN_VALUE;
+            return LEAST_INT;
         }
         int number = sheets[s].findingAt(form, i);
         if (number != 0) {
             finding = number;
-            return Integer.MIN_VALUE;
+            return LEAST_INT;
         }
         return sheets[s].items[i];
     }
@@ -1135,9 +1138,10 @@ public final class TurningVillage {
             sureWith = (1 << n) - 1;
             sureWithout = sureWith;
             turns[0] = turnAhead;
-            // The first DAY is the highest bit of the counter, so that most of a history is like the last one.
+            // The first DAY is the highest bit of the counter, so that most of a history is like the last one:
+            // only the DAYS whose bits the step to this counter has changed are unlike (of the first one: all).
             for (int counter = 0; counter < 1 << n; counter++) {
-                int unlike = counter == 0 ? n : Integer.numberOfTrailingZeros(counter) + 1;
+                int unlike = Math.min(n, Integer.bitCount(counter ^ (counter - 1)));
                 for (int day = n - unlike; day < n; day++) {
                     extend(day, counter >> (n - 1 - day) & 1);
                 }

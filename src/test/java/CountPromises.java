@@ -179,7 +179,11 @@ final class CountPromises extends Check {
         due("digest", new TurningVillage().digest(), whole(told).longValue());
     }
 
-    @Says("h becomes 31 h and each of (of each thing all that is told of it, then of the next one)")
+    @Says({"h becomes 31 h and each of (of each thing all that is told of it, then of the next one): count() 0 to 7; "
+        + "fault(); of PLACES place() 0 to 2; of DAYS 0, 25, 50, 75, 99 turn(); of ROWS door() on DAY 50, 1 and 2, "
+        + "shine(0, 99), soon() and carried() to PLACE 0 from DAY 10, waits() of the PLACE of that number from DAY 0; "
+        + "of THINGS ahead(0, 99) 0, 1; of TENANTS lives(), best(10, 30); best(NONE, 10, 30), envy(10, 30), "
+        + "history(20, 6, 0 to 3) (as it is told), dig(0, 50), meet(0, 4, 10, 0 and 1); as longs that wrap."})
     static void p39_ofABusyVillage() {
         TurningVillage x = land("fwms.f.w;x3;b0420;b1731");
         gales(x, 1, 9, 10, 11, 12, 19, 20, 24, 25, 26, 29, 30, 31, 49, 50, 51, 74, 75, 76, 98, 99);

@@ -73,7 +73,7 @@ final class GalePromises extends Check {
         due("earlier", x.gale(0, 0, 3), 0);
     }
 
-    @Says("A GALE is told at a TIME: its number. BAD")
+    @Says({"A GALE is told at a TIME: its number. BAD", "a DAY (0 to 99), FROM the west (0) or the north (1), 60 at most"})
     static void p07_bad() {
         bounds(GALE, BAD, new int[] {50, 0, 50}, new int[] {0, 99}, new int[] {0, 1}, new int[] {BUSY_TIME, 999});
     }
@@ -372,7 +372,7 @@ final class GalePromises extends Check {
         due("day 50", x.turn(50), 2);
     }
 
-    @Says("WING for each one from the north")
+    @Says({"WING for each one from the north", "FROM the west (0) or the north (1)"})
     static void p12_wingForThoseFromTheNorth() {
         TurningVillage x = new TurningVillage();
         x.gale(10, 1, 0);

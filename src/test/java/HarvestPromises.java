@@ -38,7 +38,8 @@ final class HarvestPromises extends Check {
     // ---- 29
 
     @Says({"how many of these rows of DAYS fit; the first (as bits, DAY 0 of these the lowest; by numbers; NONE)",
-        "SURE: DAYS (bits) that had one in all that fit, and those that had none in all"})
+        "SURE: DAYS (bits) that had one in all that fit, and those that had none in all",
+        "how many (what = 0), the first (1; NONE), SURE ones with (2), without (3)"})
     static void p29_firstAndSureOnes() {
         // ROW 0 has the field till a gale: one on the second DAY, whatever the third had.
         historyOf(reaping("f.......", 0, 1), 0, 3, 2, 2, 2, 1);

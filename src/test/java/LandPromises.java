@@ -82,6 +82,48 @@ final class LandPromises extends Check {
         due("finding", new TurningVillage().count(8), 0);
     }
 
+    /** A call of many kinds, by its number; all that they change a later one of them changes back. */
+    private static void someCall(TurningVillage x, int i) {
+        int place = i / 16 % 8;
+        switch (i % 16) {
+            case 0: x.wipe(); break;
+            case 1: x.type('m'); break;
+            case 2: x.sun(place, 9); break;
+            case 3: x.sun(place, 0); break;
+            case 4: x.set(0, 5); break;
+            case 5: x.set(0, 999); break;
+            case 6: x.sheet(1, 2, 60); break;
+            case 7: x.write(40, 1); break;
+            case 8: x.copy(1, 0, 1, 30, 30); break;
+            case 9: x.lose(1); break;
+            case 10: x.reaped(place, 3); break;
+            case 11: x.history(88, 12, 0); break;
+            case 12: x.reaped(place, NONE); break;
+            case 13: x.best(NONE, 0, 99); break;
+            case 14: x.likely(place, 0, 0, 50, 12, 5, 0); break;
+            default: x.meet(place, (place + 4) % 8, 0, 1); break;
+        }
+    }
+
+    @Says("An object is used for at most 512 calls after it has been made")
+    static void p01_theLastOf512Calls() {
+        String text = "mwsf.f.f;x2;b0442";
+        TurningVillage x = new TurningVillage();
+        for (int call = 1; call <= 480; call++) {
+            someCall(x, call - 1);
+        }
+        due("call 481, of a byte", x.wipe(), 1);
+        typeAll(x, text);
+        for (int call = 482 + text.length(); call <= 511; call++) {
+            due("call " + call, x.gale(3 * call % 100, 0, call), call - 482 - text.length());
+        }
+        TurningVillage y = land(text);
+        for (int call = 482 + text.length(); call <= 511; call++) {
+            y.gale(3 * call % 100, 0, call);
+        }
+        due("call 512", x.digest(), y.digest());
+    }
+
     @Says("An empty text, no GALES; all SHEETS are LOST.")
     static void p01_objectsShareNothing() {
         long before = new TurningVillage().digest();

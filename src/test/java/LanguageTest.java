@@ -4,6 +4,7 @@ import java.lang.reflect.Method;
 import java.lang.reflect.Modifier;
 import java.nio.file.Files;
 import java.nio.file.Path;
+import java.util.ArrayList;
 import java.util.Arrays;
 import java.util.List;
 import java.util.Set;
@@ -14,50 +15,17 @@ import java.util.stream.Collectors;
 
 /** What of LANGUAGE.md and of the document's face can be seen in the class and in its source. */
 public final class LanguageTest {
-    private static final String FACE = """
-        int type(int)
-        int wipe()
-        int fault()
-        int place(int,int)
-        int bridge(int,int,int)
-        int gale(int,int,int)
-        int read(int,int)
-        int takeBack(int,int)
-        int set(int,int)
-        int sun(int,int)
-        int turn(int)
-        int door(int,int,int)
-        long share(int,int,int,int,int)
-        int shine(int,int,int)
-        int ahead(int,int,int,int)
-        int next(int,int,int,int)
-        long likely(int,int,int,int,int,int,int)
-        int soon(int,int,int)
-        int carried(int,int,int)
-        int meet(int,int,int,int)
-        int wish(int,int,int)
-        int lives(int)
-        int joy(int,int,int,int)
-        int swap(int,int)
-        int best(int,int,int)
-        int envy(int,int)
-        int reaped(int,int)
-        int history(int,int,int)
-        int waits(int,int)
-        int dig(int,int)
-        int sheet(int,int,int)
-        int lose(int)
-        int put(int,int,int,int)
-        int get(int,int,int)
-        int copy(int,int,int,int,int)
-        int write(int,int)
-        int count(int)
-        long digest()
-        """;
+    private static final Path DOCUMENT = Path.of("../shared/DOC.md");
+    private static final Path SOURCE = Path.of("src/main/java/TurningVillage.java");
+    private static final Pattern GROUP = Pattern.compile("Ahead of the calls (.*?) the interface says: ---- (.*?)\\.\n");
+    /** The functions of the library that LANGUAGE.md names. */
+    private static final Set<String> LIBRARY = Set.of("Math.min", "Math.max", "Math.abs", "Math.floorDiv", "Math.floorMod",
+        "Integer.bitCount", "Integer.compare", "Long.bitCount", "Long.compare", "System.arraycopy", "Arrays.fill",
+        "Arrays.copyOf", "Arrays.copyOfRange");
     private static final List<String> FORBIDDEN = List.of("\\bthrow\\b", "\\bthrows\\b", "\\btry\\b", "\\bcatch\\b",
         "\\bsynchronized\\b", "\\bassert\\b", "->", "::", "\\bpackage\\b", "\\bgetClass\\b", "\\bvar\\b",
-        "\\bdouble\\b", "\\bfloat\\b", "Exact\\(", "\\bprotected\\b", "\\bSystem\\.(?!arraycopy\\b)", "\\bstatic\\s*\\{",
-        "\\bimport (?!java\\.util\\.Arrays;)", "\\bArrays\\.(?!fill\\b|copyOf\\b|copyOfRange\\b)", "\"", "(?<!\\*)@");
+        "\\bdouble\\b", "\\bfloat\\b", "Exact\\(", "\\bprotected\\b", "\\bstatic\\s*\\{",
+        "\\bimport (?!java\\.util\\.Arrays;)", "\"", "(?<!\\*)@");
 
     private static int wrong = 0;
 
@@ -78,24 +46,32 @@ public final class LanguageTest {
         }
     }
 
+    /** The lines of the document's face, each of them once and in this order, are all that the class shows. */
     private static void face() throws Exception {
         Class<?> type = TurningVillage.class;
         check(Modifier.isPublic(type.getModifiers()) && Modifier.isFinal(type.getModifiers()), "not public and final");
-        Set<String> told = new TreeSet<>(Arrays.asList(FACE.strip().split("\n")));
-        Set<String> seen = new TreeSet<>();
+        String document = Files.readString(DOCUMENT);
+        int start = document.indexOf("```java\n") + "```java\n".length();
+        List<String> told = document.substring(start, document.indexOf("```", start)).lines()
+            .filter(line -> line.contains("public ")).toList();
+        List<String> shown = Files.readString(SOURCE).lines()
+            .filter(line -> line.matches("( {4})?(public|protected) .*"))
+            .map(line -> line.startsWith("    ") ? line.replace(" {", ";") : line).toList();
+        check(told.size() == 41, "the document's face has " + told.size() + " lines");
+        check(shown.equals(told), "the face is " + shown);
+        int visible = 0;
         for (Method m : type.getDeclaredMethods()) {
-            if (Modifier.isPrivate(m.getModifiers()) || m.isSynthetic()) {
-                continue;
-            }
-            check(Modifier.isPublic(m.getModifiers()), "neither public nor private: " + m);
-            String parameters = Arrays.stream(m.getParameterTypes()).map(Class::getName)
-                .collect(Collectors.joining(","));
-            seen.add(m.getReturnType() + " " + m.getName() + "(" + parameters + ")");
+            visible += Modifier.isPrivate(m.getModifiers()) || m.isSynthetic() ? 0 : 1;
         }
-        check(seen.equals(told), "the face is " + seen);
+        check(visible == 38, visible + " methods can be seen");
         Constructor<?>[] constructors = type.getDeclaredConstructors();
         check(constructors.length == 1 && Modifier.isPublic(constructors[0].getModifiers())
             && constructors[0].getParameterCount() == 0, "another constructor");
+        constants(type);
+        groups(document);
+    }
+
+    private static void constants(Class<?> type) throws Exception {
         Set<String> constants = new TreeSet<>();
         for (Field f : type.getDeclaredFields()) {
             if (!Modifier.isPrivate(f.getModifiers())) {
@@ -105,6 +81,30 @@ public final class LanguageTest {
         String start = "public static final int TurningVillage.";
         check(constants.equals(Set.of(start + "NONE = -1", start + "BAD = -2", start + "NOT = -3", start + "FULL = -4")),
             "the constants are " + constants);
+    }
+
+    /** What the document's interface says ahead of the calls, the class says ahead of the same ones. */
+    private static void groups(String document) throws Exception {
+        List<String> told = new ArrayList<>();
+        Matcher group = GROUP.matcher(document);
+        while (group.find()) {
+            told.add("---- " + group.group(2));
+            told.addAll(List.of(group.group(1).replace("`", "").split(", ")));
+        }
+        List<String> shown = new ArrayList<>();
+        Matcher line = Pattern.compile("(?m)^ {4}(?:// (---- .*)|public (?:int|long) (\\w+)\\(.*)$").matcher(Files.readString(SOURCE));
+        while (line.find()) {
+            shown.add(line.group(1) != null ? line.group(1) : line.group(2));
+        }
+        check(told.size() == 6 + 38, "the document tells of " + told.size() + " calls and groups");
+        check(shown.size() >= told.size() && shown.subList(0, told.size()).equals(told), "the groups are " + shown);
+    }
+
+    private static void library(String code) {
+        Matcher m = Pattern.compile("\\b(?:Math|Integer|Long|Short|Byte|Character|Boolean|System|Arrays)\\.\\w+").matcher(code);
+        while (m.find()) {
+            check(LIBRARY.contains(m.group()), "not in the library that is told: " + m.group());
+        }
     }
 
     private static void classes() {
@@ -134,13 +134,14 @@ public final class LanguageTest {
     }
 
     private static void source() throws Exception {
-        String text = Files.readString(Path.of("src/main/java/TurningVillage.java"));
+        String text = Files.readString(SOURCE);
         String code = text.replaceAll("(?s)/\\*.*?\\*/", "").replaceAll("//[^\n]*", "");
         for (String word : FORBIDDEN) {
             Matcher m = Pattern.compile(word).matcher(code);
             check(!m.find(), "forbidden: " + word);
         }
-        check(code.chars().allMatch(c -> c < 128), "a sign above 127");
+        check(text.chars().allMatch(c -> c < 128), "a sign above 127");
+        library(code.replace("import java.util.Arrays;", ""));
         int longest = 0;
         int start = -1;
         String[] lines = code.split("\n");

@@ -3,8 +3,11 @@ import java.lang.reflect.Method;
 import java.nio.file.Files;
 import java.nio.file.Path;
 import java.util.ArrayList;
+import java.util.BitSet;
 import java.util.Comparator;
 import java.util.List;
+import java.util.regex.Matcher;
+import java.util.regex.Pattern;
 
 /**
  * Runs the tests of all promises, each named by its promise's number (p07_.. is of promise 7); with a
@@ -15,6 +18,8 @@ public final class PromiseTest {
         WayPromises.class, TenantPromises.class, HarvestPromises.class, SheetPromises.class, CountPromises.class};
     private static final int PROMISES = 39;
     private static final Path DOCUMENT = Path.of("../shared/DOC.md");
+    /** Its number, and what it says behind the call. */
+    private static final Pattern PROMISE = Pattern.compile("## Promise (\\d+): [^`]*`[^`]*`: (.*?)(?= ## )");
 
     private PromiseTest() { }
 
@@ -76,6 +81,35 @@ public final class PromiseTest {
                     Check.fail("the document does not say: " + words);
                 }
             }
+        }
+        allAreQuoted(document, tests);
+    }
+
+    /** Each word that a promise says of its call is quoted by some test. */
+    private static void allAreQuoted(String document, List<Method> tests) {
+        BitSet quoted = new BitSet();
+        for (Method test : tests) {
+            Says says = test.getAnnotation(Says.class);
+            for (String words : says == null ? new String[0] : says.value()) {
+                for (int at = document.indexOf(words); at >= 0; at = document.indexOf(words, at + 1)) {
+                    quoted.set(at, at + words.length());
+                }
+            }
+        }
+        Check.begin("all");
+        Matcher promise = PROMISE.matcher(document);
+        int seen = 0;
+        while (promise.find()) {
+            seen++;
+            for (int i = promise.start(2); i < promise.end(2); i++) {
+                if (Character.isLetterOrDigit(document.charAt(i)) && !quoted.get(i)) {
+                    Check.fail("promise " + promise.group(1) + ": no test quotes " + document.substring(i, promise.end(2)));
+                    break;
+                }
+            }
+        }
+        if (seen != PROMISES) {
+            Check.fail("the document has " + seen + " promises");
         }
     }
 

@@ -64,7 +64,8 @@ final class SharePromises extends Check {
         }
     }
 
-    @Says({"SHARE: above, below. BAD.", "a refusal -x is the least long and x more"})
+    @Says({"SHARE: above, below. BAD. (A refusal -x is the least long and x more.)",
+        "Where the answer is a long, a refusal -x is the least long and x more."})
     static void p14_bad() {
         bounds((x, a) -> x.share(a[0], a[1], a[2], a[3], a[4]), BAD_LONG, new int[] {3, 1, 10, 30, 0},
             ROW, THING, FROM, TO, WHAT);
@@ -247,7 +248,8 @@ final class SharePromises extends Check {
         likelyOf(x, 0, 8, 16, 1, 1);
     }
 
-    @Says({"the chance that it can on one at least of the n DAYS", "FRACTIONS are told in lowest terms"})
+    @Says({"by g sixteenths (0 to 16; no others), by itself: the chance that it can on one at least of the n DAYS",
+        "FRACTIONS are told in lowest terms"})
     static void p18_onOneAtLeast() {
         TurningVillage x = land("mw......");
         likelyOf(x, 0, 1, 4, 3, 4);
@@ -305,7 +307,8 @@ final class SharePromises extends Check {
         due("of day 95", x.likely(0, 1, 2, 95, 8, 16, 0), 1);
     }
 
-    @Says({"LIKELY: above, below. BAD.", "a refusal -x is the least long and x more"})
+    @Says({"LIKELY: above, below. BAD. (A refusal -x is the least long and x more.)",
+        "Where the answer is a long, a refusal -x is the least long and x more."})
     static void p18_bad() {
         bounds((x, a) -> x.likely(a[0], a[1], a[2], a[3], a[4], a[5], a[6]), BAD_LONG,
             new int[] {3, 1, 2, 50, 6, 4, 0}, ROW, THING, THING, DAY, new int[] {0, 12}, new int[] {0, 16}, WHAT);

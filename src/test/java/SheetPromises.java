@@ -181,7 +181,7 @@ final class SheetPromises extends Check {
         due("one that had items", x.put(2, 2, 0, 1), NULL);
     }
 
-    @Says("BAD; NULL; CAST; INDEX.")
+    @Says({"BAD; NULL; CAST; INDEX.", "BAD -2 (a number not as told, no such thing), NULL, NOT -3 (as told), FULL -4, other FINDINGS."})
     static void p34_badAheadOfFindings() {
         refused(Check::busy, PUT, BAD, 3, 3, 0, 1);
         refused(Check::busy, PUT, BAD, 0, -1, 9, 1);
@@ -353,7 +353,8 @@ final class SheetPromises extends Check {
         due("the last but one", x.get(1, 2, 58), 3);
     }
 
-    @Says({"TURNS of DAYS from one on come to a SHEET from item 0 on", "0 bytes, 1 shorts, 2 ints"})
+    @Says({"TURNS of DAYS from one on come to a SHEET from item 0 on", "a row of a FORM: 0 bytes, 1 shorts, 2 ints",
+        "(the lowest bits that it has, with its sign; by write(), too): 1."})
     static void p37_ofEachForm() {
         for (int form = 0; form < 3; form++) {
             TurningVillage x = windy("", 51);
